@@ -1,0 +1,103 @@
+import java.io.IOException;
+import java.lang.reflect.Constructor;
+import java.lang.reflect.Field;
+import java.lang.reflect.Method;
+import java.lang.reflect.Modifier;
+import java.nio.charset.StandardCharsets;
+import java.nio.file.Files;
+import java.nio.file.Path;
+import java.util.ArrayList;
+import java.util.List;
+import java.util.Set;
+import java.util.TreeSet;
+
+/** The document's face, and the rules of LANGUAGE.md that can be read off class and source. */
+public final class FaceTests {
+    private static final String A = " IllegalArgumentException";
+    private static final String B = " IndexOutOfBoundsException";
+    private static final String S = " IllegalStateException";
+    /** Name, number of parameters, what it answers, what it throws. */
+    private static final Set<String> FACE = new TreeSet<>(List.of(
+            "put 5 int" + A + S, "erase 4 int" + A + S, "eraseAll 3 int" + A,
+            "restore 3 int" + A + B + S, "pass 1 int" + A + S, "today 0 int",
+            "value 4 int" + A + B, "keys 3 int" + A + B, "joined 3 int" + A + B,
+            "runs 3 int" + A + B, "run 4 int" + A + B, "joinedRuns 2 int" + A + B,
+            "rows 2 int" + A, "rowRun 3 int" + A + B, "rowFrom 3 int" + A + B,
+            "rowTo 3 int" + A + B, "corrections 5 int" + A + B, "longest 3 int" + A + B,
+            "average 2 float" + A + B + S));
+
+    public static void main(String[] args) throws IOException {
+        Check.topic("face");
+        methods();
+        otherMembers();
+        Check.topic("LANGUAGE.md");
+        source(Files.readString(Path.of(args[0]), StandardCharsets.US_ASCII));
+        Check.end("FaceTests");
+    }
+
+    private static String told(Method method) {
+        StringBuilder text = new StringBuilder(method.getName());
+        text.append(' ').append(method.getParameterCount()).append(' ');
+        text.append(method.getReturnType().getSimpleName());
+        for (Class<?> thrown : method.getExceptionTypes()) {
+            text.append(' ').append(thrown.getSimpleName());
+        }
+        return text.toString();
+    }
+
+    private static void methods() {
+        Set<String> open = new TreeSet<>();
+        Set<String> names = new TreeSet<>();
+        List<Method> hidden = new ArrayList<>();
+        for (Method method : Twotimes.class.getDeclaredMethods()) {
+            if (Modifier.isPrivate(method.getModifiers())) {
+                hidden.add(method);
+            } else {
+                Check.holds(method + " is public", method.getModifiers() == Modifier.PUBLIC);
+                open.add(told(method));
+                names.add(method.getName());
+            }
+            for (Class<?> type : method.getParameterTypes()) {
+                Check.holds(method + " takes ints", type == int.class);
+            }
+            Check.holds(method + " takes seven at most", method.getParameterCount() <= 7);
+        }
+        Check.holds("the face is " + open + ", due is " + FACE, open.equals(FACE));
+        for (Method method : hidden) {
+            Check.holds(method + " has a public one's name", !names.contains(method.getName()));
+        }
+    }
+
+    private static void otherMembers() {
+        int kind = Twotimes.class.getModifiers();
+        Check.holds("public and final", kind == (Modifier.PUBLIC | Modifier.FINAL));
+        Check.due("classes inside", Twotimes.class.getDeclaredClasses().length, 0);
+        Constructor<?>[] constructors = Twotimes.class.getDeclaredConstructors();
+        Check.due("constructors", constructors.length, 1);
+        Check.due("parameters", constructors[0].getParameterCount(), 0);
+        Check.due("kind", constructors[0].getModifiers(), Modifier.PUBLIC);
+        for (Field field : Twotimes.class.getDeclaredFields()) {
+            int modifiers = field.getModifiers();
+            Check.holds(field + " is private", Modifier.isPrivate(modifiers));
+            Check.holds(field + " is final, if static",
+                    !Modifier.isStatic(modifiers) || Modifier.isFinal(modifiers));
+        }
+    }
+
+    private static void source(String text) {
+        String[] banned = {
+            "import ", "package ", "->", "::", "try ", "catch ", "finally", "synchronized",
+            "assert ", "instanceof", "static {", "double", "@",
+        };
+        for (String word : banned) {
+            Check.holds("the source holds: " + word, !text.contains(word));
+        }
+        for (String line : text.split("\n")) {
+            Check.holds("more than 100 signs: " + line, line.length() <= 100);
+            // All calls of a run share one room: no call makes anything but its exception.
+            boolean makes = line.replaceAll("//.*", "").contains("new ");
+            boolean right = line.contains("throw new ") || line.startsWith("    private final int[]");
+            Check.holds("makes an object in a call: " + line, !makes || right);
+        }
+    }
+}
