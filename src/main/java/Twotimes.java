@@ -209,7 +209,6 @@ public final class Twotimes {
         needTableAndKey(table, key);
         needRange(valid, DAYS);
         needRange(from, DAYS);
-        needRange(to, DAYS);
         if (to < from) {
             throw new IllegalArgumentException("to");
         }
@@ -277,7 +276,7 @@ public final class Twotimes {
         }
     }
 
-    // To be called behind the other checks: out of range goes ahead of not yet there.
+    // Called behind all other checks of ranges, as out of range goes ahead of not yet there.
     private void needRecord(int record) {
         needRange(record, DAYS);
         if (record > today) {

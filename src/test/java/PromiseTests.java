@@ -402,6 +402,7 @@ public final class PromiseTests {
         }
         Check.due("as many as can be", x.runs(0, 4, 3), 60);
         Check.due("none", x.runs(1, 4, 3), 0);
+        Check.due("none beside a key that has some", x.runs(0, 3, 3), 0);
         illegalTablesAndKeys("runs", (table, key) -> x.runs(table, key, 0));
         illegalTablesAndKeys("runs, later", (table, key) -> x.runs(table, key, 59));
         records("runs", record -> x.runs(0, 2, record));
@@ -457,6 +458,15 @@ public final class PromiseTests {
         y.put(0, 0, 1, 0, 1);
         y.put(0, 0, 1, 59, 60);
         Check.due("first and last day", y.joinedRuns(0, 0), 3);
+        y.pass(1);
+        y.put(0, 1, 1, 0, 60);
+        y.put(1, 0, 1, 20, 30);
+        Check.due("of two keys", y.joinedRuns(0, 1), 5);
+        Check.due("of one key, as it was", y.joinedRuns(0, 0), 3);
+        y.erase(1, 0, 0, 60);
+        y.put(1, 1, 1, 0, 1);
+        Check.due("none any more", y.joinedRuns(0, 1), 0);
+        Check.due("before it was erased", y.joinedRuns(0, 0), 3);
         Twotimes z = two();
         illegalKeys("joinedRuns", key -> z.joinedRuns(key, 0));
         illegalKeys("joinedRuns, later", key -> z.joinedRuns(key, 59));
@@ -495,6 +505,16 @@ public final class PromiseTests {
         Check.due("an earlier start", x.rows(0, 2), 6);
         x.put(0, 2, 21, 9, 20);
         Check.due("another value", x.rows(0, 2), 6);
+        Twotimes y = new Twotimes();
+        y.put(0, 3, 1, 0, 1);
+        Check.due("none beside a key that has one", y.rows(0, 2), 0);
+        y.put(0, 2, 1, 0, 60);
+        y.pass(1);
+        Check.due("the same on day 1", y.rows(0, 2), 1);
+        y.put(0, 2, 2, 0, 60);
+        Check.due("another on day 1", y.rows(0, 2), 2);
+        y.put(0, 2, 1, 0, 60);
+        Check.due("again the same on day 1", y.rows(0, 2), 1);
         illegalTablesAndKeys("rows", (table, key) -> x.rows(table, key));
     }
 
@@ -556,6 +576,15 @@ public final class PromiseTests {
         Check.due("one that ends on day 59", x.rowTo(0, 2, 5), 59);
         noRows("rowTo", 6, x, row -> x.rowTo(0, 2, row));
         Check.outOfBounds("a key without rows", () -> x.rowTo(1, 0, 0));
+        Twotimes y = new Twotimes();
+        for (int day = 0; day < 60; day++) {
+            y.put(0, 0, day % 2, 0, 60);
+            Check.due("a row of each day, today", y.rowTo(0, 0, day), -1);
+            Check.due("the row of the day before", day == 0 ? 0 : y.rowTo(0, 0, day - 1), day);
+            if (day < 59) {
+                y.pass(1);
+            }
+        }
         illegalTablesAndKeys("rowTo", (table, key) -> x.rowTo(table, key, 0));
         illegalTablesAndKeys("rowTo, no row", (table, key) -> x.rowTo(table, key, -1));
     }
@@ -626,6 +655,7 @@ public final class PromiseTests {
         x.put(0, 3, 1, 7, 8);
         Check.due("a third", x.average(3, 3), 1f / 3f);
         x.put(0, 4, 99, 0, 60);
+        Check.due("beside another key", x.average(3, 3), 1f / 3f);
         Check.due("of the greatest", x.average(4, 3), 99);
         x.put(1, 5, 4, 0, 60);
         Check.impossible("of table 1 is not asked", () -> x.average(5, 3));
