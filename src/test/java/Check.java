@@ -7,12 +7,14 @@ final class Check {
     private static int held = 0;
     private static int wrong = 0;
     private static String topic = "";
+    private static int wrongInTopic = 0;
 
     private Check() {
     }
 
     static void topic(String next) {
         topic = next;
+        wrongInTopic = 0;
     }
 
     static void due(String what, double got, double want) {
@@ -21,6 +23,16 @@ final class Check {
 
     static void holds(String what, boolean right) {
         count(right, what);
+    }
+
+    /** What is answered is free here, but the call must not throw. */
+    static void answers(String what, Call call) {
+        try {
+            call.answer();
+            count(true, what);
+        } catch (RuntimeException e) {
+            count(false, what + " threw " + e);
+        }
     }
 
     static void illegal(String what, Call call) {
@@ -50,7 +62,9 @@ final class Check {
             held++;
         } else {
             wrong++;
-            if (wrong <= 50) {
+            wrongInTopic++;
+            // A few for each topic, so that no topic hides another one.
+            if (wrongInTopic <= 5 && wrong <= 2000) {
                 System.out.println(topic + ": " + what);
             }
         }

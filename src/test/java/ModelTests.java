@@ -2,8 +2,7 @@ import java.util.Random;
 
 /** Long runs of mixed calls, each answer held against the model's; the seeds are fixed. */
 public final class ModelTests {
-    private static final int RUNS = 400;
-    private static final int CALLS = 512;
+    private static final int RUNS = 1600;
     private static final int[] EDGES = {
         -1, 0, 1, 2, 7, 8, 59, 60, 61, 99, 100, Integer.MIN_VALUE, Integer.MAX_VALUE,
     };
@@ -12,7 +11,7 @@ public final class ModelTests {
     private final int longPass;
     private final int span;
     private final int wrongOneIn;
-    private final Twotimes x = new Twotimes();
+    private final Counted x = new Counted();
     private final Model model = new Model();
 
     private ModelTests(int seed) {
@@ -29,17 +28,21 @@ public final class ModelTests {
         Check.end("ModelTests");
     }
 
+    /** Each second run leaves more than half of its calls for asking what the others have done. */
     private void mixedCalls(int seed) {
-        for (int call = 0; call < CALLS; call++) {
-            Check.topic("seed " + seed + ", call " + call);
+        int kept = seed % 2 == 0 ? 4 : 300;
+        while (x.left() >= kept) {
+            Check.topic("seed " + seed + ", " + x.left() + " calls before the last");
             if (random.nextInt(5) < 2) {
                 change();
             } else {
                 question();
             }
         }
-        Check.topic("seed " + seed + ", at the end");
-        askAll();
+        while (x.left() >= 5) {
+            Check.topic("seed " + seed + ", at the end, " + x.left() + " calls before the last");
+            askForAny();
+        }
     }
 
     // ---- arguments
@@ -115,10 +118,12 @@ public final class ModelTests {
                 same("eraseAll", () -> x.eraseAll(key, from, to), model.eraseAll(key, from, to));
                 break;
             case 2:
-                same("restore", () -> x.restore(table, key, record), model.restore(table, key, record));
+                same("restore", () -> x.restore(table, key, record),
+                        model.restore(table, key, record));
                 break;
             case 3:
-                same("erase", () -> x.erase(table, key, from, to), model.erase(table, key, from, to));
+                same("erase", () -> x.erase(table, key, from, to),
+                        model.erase(table, key, from, to));
                 break;
             default:
                 same("put", () -> x.put(table, key, value, from, to),
@@ -136,7 +141,8 @@ public final class ModelTests {
         askAsOf(table, key, valid, record);
         switch (random.nextInt(4)) {
             case 0:
-                same("run", () -> x.run(table, key, record, some), model.run(table, key, record, some));
+                same("run", () -> x.run(table, key, record, some),
+                        model.run(table, key, record, some));
                 break;
             case 1:
                 askRow(table, key, pick(Math.max(1, model.rows(table, key) + 1)));
@@ -156,7 +162,8 @@ public final class ModelTests {
                 same("keys", () -> x.keys(table, valid, record), model.keys(table, valid, record));
                 break;
             case 1:
-                same("joined", () -> x.joined(key, valid, record), model.joined(key, valid, record));
+                same("joined", () -> x.joined(key, valid, record),
+                        model.joined(key, valid, record));
                 break;
             case 2:
                 same("runs", () -> x.runs(table, key, record), model.runs(table, key, record));
@@ -168,7 +175,8 @@ public final class ModelTests {
                 same("rows", () -> x.rows(table, key), model.rows(table, key));
                 break;
             case 5:
-                same("longest", () -> x.longest(table, key, record), model.longest(table, key, record));
+                same("longest", () -> x.longest(table, key, record),
+                        model.longest(table, key, record));
                 break;
             case 6:
                 same("average", () -> x.average(key, record), model.average(key, record));
@@ -185,27 +193,15 @@ public final class ModelTests {
         same("rowTo", () -> x.rowTo(table, key, row), model.rowTo(table, key, row));
     }
 
-    /** Asks for all that is known, by which a call that threw and yet changed something is seen. */
-    private void askAll() {
-        for (int place = 0; place < 16; place++) {
-            int table = place / 8;
-            int key = place % 8;
-            int rows = model.rows(table, key);
-            same("rows", () -> x.rows(table, key), rows);
-            for (int row = 0; row <= rows && row < 12; row++) {
-                askRow(table, key, row);
-            }
-            for (int record = 0; record <= model.today(); record++) {
-                askDays(table, key, record);
-            }
-        }
-    }
-
-    private void askDays(int table, int key, int record) {
-        for (int valid = 0; valid < 60; valid++) {
-            int day = valid;
-            same("value", () -> x.value(table, key, day, record),
-                    model.value(table, key, day, record));
-        }
+    /** Whatever the key, row and days: so a call that threw and yet changed something is seen. */
+    private void askForAny() {
+        int table = random.nextInt(2);
+        int key = random.nextInt(random.nextBoolean() ? 3 : 8);
+        int valid = random.nextInt(60);
+        int record = random.nextInt(model.today() + 1);
+        same("keys", () -> x.keys(table, valid, record), model.keys(table, valid, record));
+        same("value", () -> x.value(table, key, valid, record),
+                model.value(table, key, valid, record));
+        askRow(table, key, random.nextInt(model.rows(table, key) + 1));
     }
 }

