@@ -10,6 +10,8 @@ import java.util.ArrayList;
 import java.util.List;
 import java.util.Set;
 import java.util.TreeSet;
+import java.util.regex.Matcher;
+import java.util.regex.Pattern;
 
 /** The document's face, and the rules of LANGUAGE.md that can be read off class and source. */
 public final class FaceTests {
@@ -30,8 +32,13 @@ public final class FaceTests {
         Check.topic("face");
         methods();
         otherMembers();
+        String source = Files.readString(Path.of(args[0]), StandardCharsets.US_ASCII);
+        String document = Files.readString(Path.of(args[1]), StandardCharsets.UTF_8);
+        Check.topic("The public face");
+        declarations(source, document);
+        headings(source, document);
         Check.topic("LANGUAGE.md");
-        source(Files.readString(Path.of(args[0]), StandardCharsets.US_ASCII));
+        source(source);
         Check.end("FaceTests");
     }
 
@@ -88,6 +95,40 @@ public final class FaceTests {
         }
     }
 
+    /** The names of parameters are not in the class, so its source is held to the document's. */
+    private static void declarations(String source, String document) {
+        String code = source.replaceAll("\\s+", " ");
+        int found = 0;
+        for (String line : document.split("\n")) {
+            String declared = line.strip();
+            if (declared.startsWith("public ") && declared.endsWith(";")) {
+                String due = declared.substring(0, declared.length() - 1) + " {";
+                Check.holds("not in the source: " + due, code.contains(due));
+                found++;
+            }
+        }
+        Check.due("the document's declarations", found, FACE.size() + 1);
+    }
+
+    private static void headings(String source, String document) {
+        Matcher sentence = Pattern.compile("Ahead of the calls (.*) the interface says: (.*)\\.")
+                .matcher(document);
+        int named = 0;
+        while (sentence.find()) {
+            String heading = "// " + sentence.group(2) + "\n";
+            int from = source.indexOf(heading);
+            Check.holds("no heading " + heading, from >= 0);
+            String rest = source.substring(Math.max(0, from + heading.length()));
+            String under = rest.split("// ----")[0];
+            for (String call : sentence.group(1).replace("`", "").split(", ")) {
+                Check.holds(call + " does not stand under " + heading,
+                        under.matches("(?s).*public (int|float) " + call + "\\(.*"));
+                named++;
+            }
+        }
+        Check.due("calls under headings", named, FACE.size());
+    }
+
     private static void source(String text) {
         String code = text.replaceAll("(?s)/\\*.*?\\*/", "").replaceAll("//.*", "");
         String[] banned = {
@@ -101,6 +142,10 @@ public final class FaceTests {
         }
         Check.holds("a library call that is not listed",
                 !code.replace("System.arraycopy", "").contains("System."));
+        String thrown = "throw new (IllegalState|IllegalArgument|IndexOutOfBounds)Exception"
+                + "\\(\"[a-z ]+\"\\);";
+        Check.holds("a throw that is not of the document's", !code.replaceAll(thrown, "")
+                .replaceAll("\\bthrows\\b", "").contains("throw"));
         for (String line : text.split("\n")) {
             Check.holds("more than 100 signs: " + line, line.length() <= 100);
         }
